@@ -26,6 +26,8 @@ public final class GoodHalfEmpty {
     private static final int MOST_SIGN = 255;
     private static final int FIRST_CHAIRS = 10;
 
+    private static final int WITHOUT_SIGN = 0x7fffffff;
+
     private static final int FAULT_OF_FORM = -1000;
     private static final int FAULT_OF_SENSE = -2000;
 
@@ -633,7 +635,8 @@ public final class GoodHalfEmpty {
         }
 
         private boolean mayFollow(int kind, int figure) {
-            return kind != RULER && kind != HAT || rules.has(figure);
+            boolean isRuled = kind == RULER || kind == HAT;
+            return !isRuled || rules.has(figure);
         }
 
         private int presentAgo(int ago) {
@@ -664,7 +667,7 @@ public final class GoodHalfEmpty {
         }
 
         private boolean isRight(int foretold) {
-            return foretold <= chairs == present <= chairs;
+            return (foretold <= chairs) == (present <= chairs);
         }
 
         private void decide() {
@@ -731,7 +734,7 @@ public final class GoodHalfEmpty {
             int below = sorts.people() + 1;
             for (int i = 0; i < memory.size; i++) {
                 seed = seed * 1664525 + 1013904223;
-                put(memory.weeks, i, remainder((seed & Integer.MAX_VALUE) / 256, below));
+                put(memory.weeks, i, remainder((seed & WITHOUT_SIGN) / 256, below));
             }
             return seed;
         }
