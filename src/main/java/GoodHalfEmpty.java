@@ -529,7 +529,6 @@ public final class GoodHalfEmpty {
             }
             put(kind, size, newKind);
             put(span, size, newSpan);
-            // Another rule may have stood at this place before ON.
             put(right, size, 0);
             size++;
             return true;

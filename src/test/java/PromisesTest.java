@@ -496,6 +496,9 @@ public final class PromisesTest {
         due("the others see first", inn("c4;s4e0,000;").sees(1, 9, 1, 4), 4);
         due("it is one of all people", inn("c5;ro1;s9r0,915;w4;").sees(1, 9, 1, 4), 9);
         due("the only one", new GoodHalfEmpty().sees(3, 9, 1, 4), 27);
+        due("no CHAIR for it", inn("c0;").sees(60, 9, 9, 9), 540);
+        due("least of all", inn("c0;").sees(1, 0, 0, 0), 0);
+        due("one only, though two had no room", inn("c4;s3a0,000;").sees(1, 9, 1, 4), 9);
         GoodHalfEmpty four = inn("s1a0,000;s1a0,000;s1a0,000;s1a0,000;");
         due("four are there", four.sees(1, 1, 1, 1), REFUSED + 6);
         due("four are there, and below", four.sees(0, 1, 1, 1), REFUSED + 4);
