@@ -109,7 +109,7 @@ public final class GoodHalfEmpty {
             case 0: return at(rules.kind, rule);
             case 1: return at(rules.span, rule);
             case 2: return at(rules.right, rule);
-            case 3: return town.foretoldBy(rule);
+            case 3: return town.foretells(at(rules.kind, rule), at(rules.span, rule));
             default: return refuse(OTHER);
         }
     }
@@ -159,7 +159,7 @@ public final class GoodHalfEmpty {
         if (wrong != 0) {
             return refuse(wrong);
         }
-        lookAhead(n);
+        lookAhead(n, 0);
         return at(ahead, n - 1);
     }
 
@@ -168,7 +168,7 @@ public final class GoodHalfEmpty {
         if (wrong != 0) {
             return refuse(wrong);
         }
-        lookAhead(n);
+        lookAhead(n, 0);
         int sum = 0;
         for (int i = 0; i < n; i++) {
             sum += at(ahead, i);
@@ -181,7 +181,7 @@ public final class GoodHalfEmpty {
         if (wrong != 0) {
             return refuse(wrong);
         }
-        lookAhead(n);
+        lookAhead(n, 0);
         return swingOf(n);
     }
 
@@ -190,7 +190,7 @@ public final class GoodHalfEmpty {
         if (wrong != 0) {
             return refuse(wrong);
         }
-        lookAhead(n);
+        lookAhead(n, 0);
         int found = 0;
         for (int i = 0; i < n; i++) {
             if (at(ahead, i) <= town.chairs) {
@@ -201,7 +201,7 @@ public final class GoodHalfEmpty {
     }
 
     public int again() {
-        lookAhead(2 * MOST_AGAIN);
+        lookAhead(2 * MOST_AGAIN, 0);
         for (int n = 1; n <= MOST_AGAIN; n++) {
             if (comesAgainAfter(n)) {
                 return n;
@@ -314,9 +314,7 @@ public final class GoodHalfEmpty {
         if (wrong != 0) {
             return refuse(wrong);
         }
-        mind.copyFrom(town);
-        mind.rules.lengthen();
-        runMind(n);
+        lookAhead(n, 1);
         return swingOf(n);
     }
 
@@ -350,7 +348,7 @@ public final class GoodHalfEmpty {
     }
 
     public int judge() {
-        lookAhead(toldSize);
+        lookAhead(toldSize, 0);
         int found = NONE;
         for (int i = toldSize - 1; i >= 0; i--) {
             if (at(told, i) != at(ahead, i)) {
@@ -400,12 +398,9 @@ public final class GoodHalfEmpty {
         return WORTH_REFUSED - refuse(number);
     }
 
-    private void lookAhead(int weeks) {
+    private void lookAhead(int weeks, int longerBy) {
         mind.copyFrom(town);
-        runMind(weeks);
-    }
-
-    private void runMind(int weeks) {
+        mind.rules.lengthen(longerBy);
         for (int i = 0; i < weeks; i++) {
             put(ahead, i, mind.goBy());
         }
@@ -448,7 +443,7 @@ public final class GoodHalfEmpty {
             // What a rule foretells must be asked before the week goes by, so that it isn't remembered yet.
             mind.decide();
             for (int i = 0; i < tally.length; i++) {
-                if (mind.isRight(mind.foretold(i / MOST_SPAN, i % MOST_SPAN + 1))) {
+                if (mind.isRight(mind.foretells(i / MOST_SPAN, i % MOST_SPAN + 1))) {
                     put(tally, i, at(tally, i) + 1);
                 }
             }
@@ -544,9 +539,9 @@ public final class GoodHalfEmpty {
             return found;
         }
 
-        private void lengthen() {
+        private void lengthen(int by) {
             for (int i = 0; i < size; i++) {
-                put(span, i, Math.min(at(span, i) + 1, MOST_SPAN));
+                put(span, i, Math.min(at(span, i) + by, MOST_SPAN));
             }
         }
     }
@@ -604,7 +599,8 @@ public final class GoodHalfEmpty {
         private int chairs = FIRST_CHAIRS;
         private int penny = 0;
         private int number = 0;
-        // What was decided last, kept between the steps of one call only: no part of how things stand.
+        // What was foretold and decided last, kept between the steps of one call only: no part of how things stand.
+        private final int[] foretold = new int[MOST_RULES];
         private final int[] going = new int[MOST_SORTS];
         private int present = 0;
 
@@ -639,7 +635,8 @@ public final class GoodHalfEmpty {
         }
 
         private int presentAgo(int ago) {
-            return ago <= memory.size ? at(memory.weeks, ago - 1) : chairs;
+            int[] weeks = memory.weeks;
+            return ago >= 1 && ago <= memory.size && ago <= weeks.length ? weeks[ago - 1] : chairs;
         }
 
         private int meanPresent(int span) {
@@ -650,7 +647,7 @@ public final class GoodHalfEmpty {
             return quotient(sum, span);
         }
 
-        private int foretold(int kind, int span) {
+        private int foretells(int kind, int span) {
             switch (kind) {
                 case LAST: return presentAgo(span);
                 case LESS_LAST: return Math.max(0, sorts.people() - presentAgo(span));
@@ -661,15 +658,22 @@ public final class GoodHalfEmpty {
             }
         }
 
-        private int foretoldBy(int rule) {
-            return foretold(at(rules.kind, rule), at(rules.span, rule));
-        }
-
-        private boolean isRight(int foretold) {
-            return (foretold <= chairs) == (present <= chairs);
+        private boolean isRight(int guess) {
+            return (guess <= chairs) == (present <= chairs);
         }
 
         private void decide() {
+            askRules();
+            askSorts();
+        }
+
+        private void askRules() {
+            for (int i = 0; i < rules.size; i++) {
+                put(foretold, i, foretells(at(rules.kind, i), at(rules.span, i)));
+            }
+        }
+
+        private void askSorts() {
             present = 0;
             for (int i = 0; i < sorts.size; i++) {
                 if (at(sorts.kind, i) != SEER) {
@@ -694,17 +698,19 @@ public final class GoodHalfEmpty {
             int figure = at(sorts.figure, sort);
             switch (at(sorts.kind, sort)) {
                 case ALWAYS: return true;
-                case RULER: return foretoldBy(figure) <= chairs;
-                case HAT: return foretoldBy(rules.mostRight(figure)) <= chairs;
+                case RULER: return at(foretold, figure) <= chairs;
+                case HAT: return at(foretold, rules.mostRight(figure)) <= chairs;
                 case TURN: return remainder(number, figure + 1) == 0;
                 default: return false;
             }
         }
 
         private int goBy() {
-            decide();
+            // Not by decide(): that would be one call deeper for all that looks ahead.
+            askRules();
+            askSorts();
             for (int i = 0; i < rules.size; i++) {
-                if (isRight(foretoldBy(i))) {
+                if (isRight(at(foretold, i))) {
                     put(rules.right, i, at(rules.right, i) + 1);
                 }
             }
@@ -838,7 +844,7 @@ public final class GoodHalfEmpty {
 
         // Behind the end there is a letter that fits nothing, so that what lacks is found at the end.
         private int letterAt(int place) {
-            return place < size ? at(letters, place) : -1;
+            return place >= 0 && place < size && place < letters.length ? letters[place] : -1;
         }
 
         private boolean isDigit(int place) {
