@@ -751,11 +751,12 @@ public final class BoundariesTest {
         says("Promise 8: A WEEK goes by: PRESENT.", () -> {
             due("of nobody", new GoodHalfEmpty().week(), 0);
             due("of all", inn(times(4, "s9a0,000;")).week(), 36);
-            GoodHalfEmpty x = new GoodHalfEmpty();
-            for (int i = 1; i <= 200; i++) {
+            GoodHalfEmpty x = inn("rl1;");
+            for (int i = 1; i <= 500; i++) {
                 x.week();
-                due("the number", x.count(4), i);
             }
+            due("the number of 500", x.count(4), 500);
+            due("RIGHT of 500", x.rule(0, 2), 500);
         });
         says("Promise 9: NEXT: PRESENT.", () -> {
             GoodHalfEmpty x = inn(SWINGING);
