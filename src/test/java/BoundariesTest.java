@@ -476,6 +476,13 @@ public final class BoundariesTest {
                 due("letters behind \"" + text + "\"", x.count(8), 0);
                 due("town() then", x.town(), -1000);
             }
+            // What lacks must not be found in letters that are no more.
+            due("four letters", tell(x, "w12;"), 1);
+            due("two of them", tell(x, "w1"), -1002);
+            due("a SORT", tell(x, ANY_SORT), 1);
+            for (int n = 0; n < 9; n++) {
+                due(n + " letters of it", tell(x, ANY_SORT.substring(0, n)), -1000 - n);
+            }
         });
         says("Promise 3: how many STATEMENTS", () -> {
             for (int n = 1; n <= 26; n++) {
@@ -1010,6 +1017,7 @@ public final class BoundariesTest {
             due("as many as CHAIRS, no more", inn("c4;s9a0,900;").best(0), 36);
             due("FEW is one more than HOME", inn("c60;s9a0,433;").best(0), 36);
             due("the inn can't be full of nine", inn("c9;s9a0,191;").best(0), 9);
+            row("as many lose as it takes to fill it", c -> inn("c" + c + ";s3a0,090;s3a0,009;").best(0), 2, 54, 45, 36, 27, 27);
             due("no more go than gain by the full inn", inn("c0;s3a0,090;s3a0,005;").best(0), 27 + 15);
             due("those first to whom it's worth most", inn("c3;s2a0,503;s2a0,904;").best(0), 5 + 3 + 18);
             keeps("best(0)", inn("c1;s3a0,943;"), x -> x.best(0));
@@ -1383,6 +1391,26 @@ public final class BoundariesTest {
                 due("RULES neither", x.count(1), 1);
             }
             due("the WEEK then", x.week(), 0);
+        });
+        says("Terms: ON from it all is as then, PLANS, too.", () -> {
+            GoodHalfEmpty x = inn("c2;s3a0,513;");
+            x.image();
+            for (int i = 0; i < 2; i++) {
+                tell(x, "c30;" + times(3, "s9a0,990;"));
+                due("rests() of four SORTS", x.rests(), 1);
+                due("rest(-1)", x.rest(-1), 30);
+                due("best(1)", x.best(1), 30);
+                due("off()", x.off(), 0);
+                due("pennies()", x.pennies(), 0);
+                due("chairs()", x.chairs(), 30);
+                x.on();
+                due("rests() of one SORT", x.rests(), 1);
+                due("rest(-1) then", x.rest(-1), 2);
+                due("best(0) then", x.best(0), 13);
+                due("best(1) then", x.best(1), 2);
+                due("off() then", x.off(), 0);
+                due("chairs() then", x.chairs(), 3);
+            }
         });
         says("Terms, THE IMAGE: (not the ROW, letters, REFUSALS)", () -> {
             GoodHalfEmpty x = new GoodHalfEmpty();
