@@ -42,6 +42,12 @@ public final class FaceTest {
         return true;
     }
 
+    private static void publicNamesAreNot(Method m) {
+        for (String name : FACE) {
+            due("a public name of " + m, m.getName().equals(name.substring(0, name.indexOf('('))), false);
+        }
+    }
+
     private static void face() {
         List<String> got = new ArrayList<>();
         for (Method m : GoodHalfEmpty.class.getDeclaredMethods()) {
@@ -54,6 +60,7 @@ public final class FaceTest {
                 due("static " + m.getName(), Modifier.isStatic(m.getModifiers()), false);
             } else {
                 due("private " + m.getName(), Modifier.isPrivate(m.getModifiers()), true);
+                publicNamesAreNot(m);
             }
         }
         List<String> want = new ArrayList<>(List.of(FACE));
@@ -76,9 +83,7 @@ public final class FaceTest {
         for (Class<?> c : classes) {
             due("static " + c, Modifier.isStatic(c.getModifiers()), true);
             for (Method m : c.getDeclaredMethods()) {
-                for (String name : FACE) {
-                    due("a public name in " + c, m.getName().equals(name.substring(0, name.indexOf('('))), false);
-                }
+                publicNamesAreNot(m);
             }
             int fields = 0;
             for (Field f : c.getDeclaredFields()) {
